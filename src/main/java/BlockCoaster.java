@@ -75,13 +75,17 @@ public final class BlockCoaster {
         for (int i = 0; i < MAX_SAVED; i++) {
             saved[i] = new Ride();
         }
-        text = new TrackText();
-        for (int i = 0; i < FIRST_TRACK.length(); i++) {
-            text.add(FIRST_TRACK.charAt(i));
-        }
-        now.begin(text);
-        text.clear();
         savedCount = 0;
+        text = new TrackText();
+        now.begin(firstTrack());
+    }
+
+    private static TrackText firstTrack() {
+        TrackText first = new TrackText();
+        for (int i = 0; i < FIRST_TRACK.length(); i++) {
+            first.add(FIRST_TRACK.charAt(i));
+        }
+        return first;
     }
 
     // ---- coaster
@@ -289,8 +293,7 @@ public final class BlockCoaster {
     }
 
     public int ticksToValley() {
-        trial.copyFrom(now);
-        return trialTicksToValley(MAX_QUESTION);
+        return nextValley(now.settings[FRICTION], MAX_QUESTION);
     }
 
     public int dispatchesWith(int gap) throws IllegalArgumentException {
@@ -306,11 +309,9 @@ public final class BlockCoaster {
     }
 
     public int mostFriction() {
-        // Each friction is tried: a greater one may let a train wait longer, or be slower, and still come through.
+        // Each one is tried: a greater friction makes trains slower, and may put their valley behind the 500 ticks.
         for (int friction = GREATEST_SETTINGS[FRICTION]; friction >= LEAST_SETTINGS[FRICTION]; friction--) {
-            trial.copyFrom(now);
-            trial.settings[FRICTION] = friction;
-            if (trialTicksToValley(FRICTION_QUESTION) == NONE) {
+            if (nextValley(friction, FRICTION_QUESTION) == NONE) {
                 return friction;
             }
         }
@@ -382,7 +383,7 @@ public final class BlockCoaster {
         hash = hashOfBlocks(hash);
         hash = hashOfTrains(hash);
         hash = hashOfDispatches(hash);
-        hash = hashWith(hash, ticksToValley());
+        hash = hashWith(hash, nextValley(now.settings[FRICTION], MAX_QUESTION));
         return hashWith(hash, savedCount);
     }
 
@@ -432,7 +433,9 @@ public final class BlockCoaster {
         return 31 * hash + value;
     }
 
-    private int trialTicksToValley(int limit) {
+    private int nextValley(int friction, int limit) {
+        trial.copyFrom(now);
+        trial.settings[FRICTION] = friction;
         // A tick frees no train from its valley, so one more that lies is one that did not lie.
         int lying = trial.lyingTrains();
         for (int ticks = 1; ticks <= limit; ticks++) {
@@ -558,7 +561,7 @@ public final class BlockCoaster {
             return letter == 'l' ? LIFT : NEITHER;
         }
 
-        /** Only the cells behind the last brake cell were given a block too many: theirs ends at the first brake cell. */
+        /** The cells behind the last brake cell were given a block too many: theirs ends at the first brake cell. */
         private void closeRing() {
             for (int cell = 0; cell < cellCount; cell++) {
                 if (blocks[cell] == blockCount) {
@@ -686,6 +689,12 @@ public final class BlockCoaster {
             standing = 0;
         }
 
+        void moveTo(int nextCell, int nextSquare) {
+            cell = nextCell;
+            square = nextSquare;
+            cellsMoved++;
+        }
+
         int speed() {
             int root = 0;
             for (int step = 64; step > 0; step /= 2) {
@@ -778,7 +787,7 @@ public final class BlockCoaster {
 
         int trainInBlock(int block) {
             for (int i = 0; i < trainCount; i++) {
-                if (blockOf(trains[i]) == block) {
+                if (track.blocks[trains[i].cell] == block) {
                     return i;
                 }
             }
@@ -827,14 +836,11 @@ public final class BlockCoaster {
             if (!isFree(track.nextBlock(block))) {
                 return WHY_NOT_FREE;
             }
-            return block == STATION ? reasonAtStation(train) : WHY_RELEASED;
-        }
-
-        private int reasonAtStation(Train train) {
-            if (train.standing + 1 < settings[DWELL]) {
+            boolean atStation = block == STATION;
+            if (atStation && train.standing + 1 < settings[DWELL]) {
                 return WHY_DWELL;
             }
-            if (dispatches > 0 && ticks - latestDispatch() < settings[GAP]) {
+            if (atStation && dispatches > 0 && ticks - latestDispatch() < settings[GAP]) {
                 return WHY_GAP;
             }
             return WHY_RELEASED;
@@ -845,7 +851,7 @@ public final class BlockCoaster {
                 if (trains[i].condition == STANDS) {
                     waitOrStart(i);
                 } else if (trains[i].condition == RUNS) {
-                    roll(trains[i]);
+                    run(trains[i]);
                 }
                 trains[i].passWarmth(settings[AIR]);
             }
@@ -871,24 +877,19 @@ public final class BlockCoaster {
             logTrains[place] = number;
         }
 
-        private void roll(Train train) {
+        private void run(Train train) {
             train.progress += track.kinds[train.cell] == LIFT ? LIFT_SPEED : train.speed();
-            // Progress and speed are 99 at most: there is never a second cell in one tick.
-            if (train.progress >= CELL_LENGTH) {
-                train.progress -= CELL_LENGTH;
-                move(train);
+            if (train.progress < CELL_LENGTH) {
+                return;
             }
-        }
-
-        private void move(Train train) {
+            // Progress and speed are 99 at most: there is never a second cell in one tick.
+            train.progress -= CELL_LENGTH;
             int square = track.squareBehind(train.cell, train.square, dragOf(train));
             if (square < 0) {
                 train.lie();
                 return;
             }
-            train.cell = track.nextCell(train.cell);
-            train.square = square;
-            train.cellsMoved++;
+            train.moveTo(track.nextCell(train.cell), square);
             if (track.kinds[train.cell] == BRAKE) {
                 comeToBrake(train);
             } else if (track.isValley(train.cell, square)) {
@@ -897,7 +898,7 @@ public final class BlockCoaster {
         }
 
         private void comeToBrake(Train train) {
-            // It stands first, for a train that ran on this brake cell would itself keep the next block from being free.
+            // It stands first: a train that runs on this brake cell would itself keep the next block from being free.
             train.standOn(train.cell);
             int block = blockOf(train);
             if (block == STATION) {

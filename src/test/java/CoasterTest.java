@@ -107,6 +107,17 @@ public final class CoasterTest {
         x.undo();
         Check.due("3: undoable", 3, x.undo() + 1);
         Check.due("3: back", 1, x.value(2));
+        newTrainBeginsAnew();
+    }
+
+    private static void newTrainBeginsAnew() {
+        BlockCoaster x = Rides.on("0b0b0b0b");
+        x.addTrain(3);
+        x.pass(24);
+        Check.due("2: it has stood, moved and come to the station", "0 0 0 0 20 1 3 7 1 1 3", Rides.train(x, 0));
+        x.takeTrain();
+        x.addTrain(0);
+        Check.due("2: the next one has not", "0 0 0 0 20 1 0 7 0 0 3", Rides.train(x, 0));
     }
 
     private static void rescue() {

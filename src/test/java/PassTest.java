@@ -103,6 +103,11 @@ public final class PassTest {
         x.set(3, 40);
         x.pass(1);
         Check.due("7: nearer to a warmer air", 28, x.train(0, 4));
+        BlockCoaster y = Rides.on("8b0.0b0.");
+        y.set(1, 1);
+        y.addTrain(0);
+        y.pass(21);
+        Check.due("7: speed 28 warms by 2", "1 1 818 0 21 0 0 6 1 0 0", Rides.train(y, 0));
     }
 
     private static void lift() {

@@ -56,7 +56,7 @@ public final class StateTest {
         Rides.pass(x, 3000);
         String before = all(x);
         x.pass(77);
-        Rides.write(x, "9b9b9l9.9.");
+        Rides.write(x, "9.9b9l9.9b");
         x.parse();
         x.addTrain(1);
         x.setHeight(4, 0);
@@ -67,6 +67,30 @@ public final class StateTest {
         x.pass(77);
         x.undo();
         Check.due("23: and goes on", before, all(x));
+        x.takeTrain();
+        x.pass(500);
+        x.pass(500);
+        x.undo();
+        x.undo();
+        x.undo();
+        Check.due("23: the log is back, too", before, all(x));
+        undoBringsTrainsBack();
+    }
+
+    private static void undoBringsTrainsBack() {
+        BlockCoaster x = Rides.on("9b0.0b0.");
+        x.addTrain(0);
+        x.pass(3);
+        String standing = all(x);
+        x.pass(2);
+        x.undo();
+        Check.due("23: ticks of standing", standing, all(x));
+        x.pass(25);
+        String warm = all(x);
+        Check.due("23: warm", true, x.train(0, 4) > 20);
+        x.pass(20);
+        x.undo();
+        Check.due("23: warmth", warm, all(x));
     }
 
     private static String all(BlockCoaster x) {

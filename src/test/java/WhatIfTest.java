@@ -54,6 +54,10 @@ public final class WhatIfTest {
         Check.due("14: the next tick", 1, x.ticksToStation(0));
         x.pass(1);
         Check.due("14: again", 84, x.ticksToStation(0));
+        x.set(1, 10);
+        Check.due("14: a longer dwell", 93, x.ticksToStation(0));
+        x.pass(6);
+        Check.due("14: it has stood for a while", 87, x.ticksToStation(0));
         for (int wrong : new int[] {-1, 1, MIN, MAX}) {
             Check.dueThrow("14: ticksToStation(" + wrong + ")", INDEX, () -> x.ticksToStation(wrong));
         }
@@ -196,6 +200,14 @@ public final class WhatIfTest {
         x.takeTrain();
         x.takeTrain();
         Check.due("19: cold", 0.0, x.meanWarmth());
+        x.set(3, 40);
+        x.addTrain(2);
+        x.takeTrain();
+        Check.due("19: one that was taken does not count", 0.0, x.meanWarmth());
+        x.addTrain(1);
+        x.addTrain(2);
+        x.addTrain(3);
+        Check.due("19: four", 30.0, x.meanWarmth());
     }
 
     private static void questionsChangeNothing() {
