@@ -208,6 +208,10 @@ public final class CoasterTest {
             Check.dueThrow("6: setHeight(0, " + wrong + ")", ARGUMENT, () -> x.setHeight(0, wrong));
         }
         Check.due("6: nothing changed", before, x.digest());
+        BlockCoaster y = Rides.on("9b0b0.8.");
+        Check.due("11: the first cell is the highest", 9, y.value(11));
+        y.setHeight(0, 1);
+        Check.due("11: the last cell is the highest", 8, y.value(11));
         Check.due("6: undoable", 2, x.undo());
         Check.due("6: undone", 0, x.cell(13, 0));
     }
