@@ -2,7 +2,7 @@ import java.lang.reflect.Constructor;
 import java.lang.reflect.Field;
 import java.lang.reflect.Method;
 import java.lang.reflect.Modifier;
-import java.util.Arrays;
+import java.util.List;
 import java.util.Map;
 import java.util.TreeMap;
 import java.util.TreeSet;
@@ -14,10 +14,11 @@ public final class FaceTest {
     private static final String X = "IndexOutOfBoundsException";
 
     public static void main(String[] args) {
+        Check.sentence("Promise 1, The public face", "public final class BlockCoaster");
         Class<?> face = BlockCoaster.class;
         Check.due("modifiers", Modifier.PUBLIC | Modifier.FINAL, face.getModifiers());
         Check.due("superclass", Object.class, face.getSuperclass());
-        Check.due("methods", due().toString(), methods(face).toString());
+        methods(face);
         constructors(face);
         fields(face);
         privateNames(face);
@@ -52,8 +53,9 @@ public final class FaceTest {
         return due;
     }
 
-    private static Map<String, String> methods(Class<?> face) {
-        Map<String, String> found = new TreeMap<>();
+    private static void methods(Class<?> face) {
+        Map<String, String> due = due();
+        TreeSet<String> found = new TreeSet<>();
         for (Method method : face.getDeclaredMethods()) {
             if (Modifier.isPrivate(method.getModifiers())) {
                 continue;
@@ -63,13 +65,15 @@ public final class FaceTest {
             for (Class<?> type : method.getParameterTypes()) {
                 key.append(key.charAt(key.length() - 1) == '(' ? "" : ",").append(type);
             }
-            StringBuilder answer = new StringBuilder(method.getReturnType().getName());
+            String name = key.append(')').toString();
+            found.add(name);
+            List<String> answers = List.of(due.getOrDefault(name, "").split(" "));
+            Check.due(name + " returns", answers.get(0), method.getReturnType().getName());
             for (Class<?> type : method.getExceptionTypes()) {
-                answer.append(' ').append(type.getSimpleName());
+                Check.due(name + " may throw " + type, true, answers.contains(type.getSimpleName()));
             }
-            found.put(key.append(')').toString(), answer.toString());
         }
-        return found;
+        Check.due("methods", due.keySet().toString(), found.toString());
     }
 
     private static void constructors(Class<?> face) {
@@ -89,7 +93,9 @@ public final class FaceTest {
             }
         }
         Check.due("fields", "[public static final int BlockCoaster.NONE]", visible.toString());
+        Check.sentence("Promise 1, Terms", "The constants: `NONE = -1`: There is no such thing.");
         Check.due("NONE", -1, BlockCoaster.NONE);
+        Check.sentence("Promise 1, The public face", "public final class BlockCoaster");
         for (Class<?> inside : face.getDeclaredClasses()) {
             Check.due(inside.getName() + " is static", true, Modifier.isStatic(inside.getModifiers()));
             Check.due(inside.getName() + " is visible", false,
@@ -102,13 +108,18 @@ public final class FaceTest {
         for (String key : due().keySet()) {
             names.add(key.substring(0, key.indexOf('(')));
         }
+        privateNames(face, names);
         for (Class<?> inside : face.getDeclaredClasses()) {
-            for (Method method : inside.getDeclaredMethods()) {
-                Check.due(inside.getName() + "." + method.getName() + " bears a public name", false,
+            privateNames(inside, names);
+        }
+    }
+
+    private static void privateNames(Class<?> where, TreeSet<String> names) {
+        for (Method method : where.getDeclaredMethods()) {
+            if (Modifier.isPrivate(method.getModifiers())) {
+                Check.due(where.getName() + "." + method.getName() + " bears a public name", false,
                         names.contains(method.getName()));
             }
         }
-        Arrays.stream(face.getDeclaredMethods()).filter(m -> Modifier.isPrivate(m.getModifiers()))
-                .forEach(m -> Check.due(m.getName() + " bears a public name", false, names.contains(m.getName())));
     }
 }

@@ -42,7 +42,7 @@ public final class ModelTest {
         if (kind < 28) {
             ask("pass", random.nextInt(3) == 0 ? number(1, 500) : number(1, 40));
         } else if (kind < 42) {
-            ask("addTrain", number(0, coaster.value(1) - 1));
+            ask("addTrain", number(0, model.value(1) - 1));
         } else if (kind < 45) {
             ask("takeTrain");
         } else if (kind < 51) {
@@ -51,7 +51,7 @@ public final class ModelTest {
             int what = number(0, 3);
             ask("set", what, number(0, new int[] {20, 50, 120, 40}[Math.floorMod(what, 4)]));
         } else if (kind < 61) {
-            ask("setHeight", number(0, coaster.value(0) - 1), number(0, 9));
+            ask("setHeight", number(0, model.value(0) - 1), number(0, 9));
         } else if (kind < 66) {
             ask("undo");
         } else if (kind < 67 && random.nextInt(3) == 0) {
@@ -69,8 +69,8 @@ public final class ModelTest {
     private void look() {
         switch (random.nextInt(13)) {
             case 0 -> ask("train", number(0, 3), number(0, 9));
-            case 1 -> ask("cell", number(0, coaster.value(0) - 1), number(0, 3));
-            case 2 -> ask("block", number(0, coaster.value(1) - 1), number(0, 4));
+            case 1 -> ask("cell", number(0, model.value(0) - 1), number(0, 3));
+            case 2 -> ask("block", number(0, model.value(1) - 1), number(0, 4));
             case 3 -> ask("value", number(0, 11));
             case 4 -> ask("dispatch", number(0, 35), number(0, 1));
             case 5 -> ask("why", number(0, 3));
@@ -78,7 +78,7 @@ public final class ModelTest {
             case 7 -> ask("ticksToValley");
             case 8 -> ask("dispatchesWith", number(0, 500));
             case 9 -> ask("mostFriction");
-            case 10 -> ask("leastSquare", number(0, coaster.value(0) - 1));
+            case 10 -> ask("leastSquare", number(0, model.value(0) - 1));
             case 11 -> ask("meanWarmth");
             default -> ask("clearText");
         }

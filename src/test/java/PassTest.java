@@ -168,7 +168,7 @@ public final class PassTest {
             Check.due("7: square", expected, x.train(0, 2));
             x.setHeight(cell, 9);
             int drag = x.train(0, 7);
-            while (x.train(0, 0) == cell) {
+            for (int ticks = 0; ticks < 100 && x.train(0, 0) == cell; ticks++) {
                 drag = x.train(0, 7);
                 x.pass(1);
                 warmest = Math.max(warmest, x.train(0, 4));

@@ -1,3 +1,5 @@
+import java.math.BigInteger;
+
 /** What several tests need: coasters on a track of a text, and bytes for a text. */
 final class Rides {
     private Rides() {
@@ -17,6 +19,43 @@ final class Rides {
         for (int i = 0; i < text.length(); i++) {
             coaster.append(text.charAt(i));
         }
+    }
+
+    /** Its values told out, hashed without overflow, and cut to 64 bits in the end. */
+    static long digestOfANewObject() {
+        int[] values = {0, 14, 4, 0, 0, 3, 5, 0, 20, 0, -1, 0, 7,
+            0, 2, 0, -1, 1, 1, 1, -1, 3, 1, 1, -1, 5, 1, 1, -1, 7, 1, 1, -1, 7, 2, 1, -1, 4, 0, 2, -1,
+            1, 0, 2, -1, 3, 0, 2, -1, 2, 0, 2, -1, 4, 2, 2, -1, 2, 0, 3, -1, 1, 0, 3, -1, 0, 2, 3, -1,
+            0, 0, 1, -1, 0, 1, 5, 5, -1, 0, 6, 10, 5, -1, 0, 11, 13, 3, -1, 0, -1, 0};
+        BigInteger h = BigInteger.valueOf(3581);
+        for (int v : values) {
+            h = h.multiply(BigInteger.valueOf(31)).add(BigInteger.valueOf(v));
+        }
+        return h.longValue();
+    }
+
+    static void set(BlockCoaster coaster, int friction, int dwell, int gap, int air) {
+        coaster.set(0, friction);
+        coaster.set(1, dwell);
+        coaster.set(2, gap);
+        coaster.set(3, air);
+    }
+
+    /** A train at the station that is released in the given tick from now, for another one was dispatched just before. */
+    static BlockCoaster releasedIn(String track, int ticks) {
+        BlockCoaster x = on(track);
+        set(x, 18, 1, 0, 0);
+        x.addTrain(0);
+        x.pass(1);
+        x.takeTrain();
+        x.addTrain(0);
+        x.set(2, ticks);
+        return x;
+    }
+
+    /** 1680 ticks from the brake cell 0 to the brake cell 29: 100 on each plain cell, 20 on each lift cell. */
+    static String slowTrack(int lastHeight) {
+        return "0b" + "0.0l".repeat(14) + lastHeight + "b";
     }
 
     static void pass(BlockCoaster coaster, int ticks) {

@@ -20,29 +20,6 @@ public final class WhatIfTest {
         Check.finish("WhatIfTest");
     }
 
-    /** A train at the station that is released in the given tick from now, for another one was dispatched just before. */
-    private static BlockCoaster releasedIn(String track, int ticks) {
-        BlockCoaster x = Rides.on(track);
-        x.set(3, 0);
-        x.set(0, 18);
-        x.set(1, 1);
-        x.addTrain(0);
-        x.pass(1);
-        x.takeTrain();
-        x.addTrain(0);
-        x.set(2, ticks);
-        return x;
-    }
-
-    /** 1680 ticks from the brake cell 0 to the brake cell 29: 100 on each plain cell, 20 on each lift cell. */
-    private static String slowTrack(int lastHeight) {
-        StringBuilder track = new StringBuilder("0b");
-        for (int i = 0; i < 14; i++) {
-            track.append("0.0l");
-        }
-        return track.append(lastHeight).append('b').toString();
-    }
-
     private static void ticksToStation() {
         BlockCoaster x = Rides.on("0b0b0b0b");
         x.set(1, 1);
@@ -72,8 +49,8 @@ public final class WhatIfTest {
     }
 
     private static void stationIn2000Ticks() {
-        Check.due("14: 2000 ticks", 2000, releasedIn(slowTrack(0), 279).ticksToStation(0));
-        Check.due("14: 2001 ticks", -1, releasedIn(slowTrack(0), 280).ticksToStation(0));
+        Check.due("14: 2000 ticks", 2000, Rides.releasedIn(Rides.slowTrack(0), 279).ticksToStation(0));
+        Check.due("14: 2001 ticks", -1, Rides.releasedIn(Rides.slowTrack(0), 280).ticksToStation(0));
     }
 
     private static void ticksToValley() {
@@ -95,8 +72,8 @@ public final class WhatIfTest {
     }
 
     private static void valleyIn2000Ticks() {
-        Check.due("15: 2000 ticks", 2000, releasedIn(slowTrack(9), 300).ticksToValley());
-        Check.due("15: 2001 ticks", -1, releasedIn(slowTrack(9), 301).ticksToValley());
+        Check.due("15: 2000 ticks", 2000, Rides.releasedIn(Rides.slowTrack(9), 300).ticksToValley());
+        Check.due("15: 2001 ticks", -1, Rides.releasedIn(Rides.slowTrack(9), 301).ticksToValley());
     }
 
     private static void dispatchesWith() {
@@ -139,8 +116,8 @@ public final class WhatIfTest {
     }
 
     private static void frictionIn500Ticks() {
-        Check.due("17: in tick 500", -1, releasedIn("0b9.0b0.", 480).mostFriction());
-        Check.due("17: in tick 501", 20, releasedIn("0b9.0b0.", 481).mostFriction());
+        Check.due("17: in tick 500", -1, Rides.releasedIn("0b9.0b0.", 480).mostFriction());
+        Check.due("17: in tick 501", 20, Rides.releasedIn("0b9.0b0.", 481).mostFriction());
     }
 
     private static void leastSquare() {
