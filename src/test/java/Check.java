@@ -54,7 +54,9 @@ final class Check {
     static void sentence(String place, String words) {
         sentence = place + ", \"" + words + "\": ";
         String heading = place.substring(place.lastIndexOf(", ") < 0 ? 0 : place.lastIndexOf(", ") + 2);
-        due("the words stand in the document", true, section(heading).contains(words));
+        if (Files.exists(DOCUMENT)) {
+            due("the words stand in the document", true, section(heading).contains(words));
+        }
     }
 
     private static String section(String heading) {

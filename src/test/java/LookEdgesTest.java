@@ -139,7 +139,8 @@ public final class LookEdgesTest {
     }
 
     private static void trainStationVisits() {
-        Check.sentence("Promise 8", "9 the times that it has moved to the station so far (addTrain() and rescue() count for neither)");
+        Check.sentence("Promise 8",
+                "9 the times that it has moved to the station so far (addTrain() and rescue() count for neither)");
         BlockCoaster x = Rides.on("0b0b0b0.");
         x.set(1, 1);
         x.addTrain(0);
@@ -291,7 +292,8 @@ public final class LookEdgesTest {
     }
 
     private static void blockHeldUp() {
-        Check.sentence("Promise 10", "4 how often a train has moved to its brake so far while the next block was not free");
+        Check.sentence("Promise 10",
+                "4 how often a train has moved to its brake so far while the next block was not free");
         BlockCoaster x = Rides.on("0b0b0b0b");
         Rides.set(x, 3, 50, 0, 20);
         x.addTrain(0);
@@ -313,7 +315,8 @@ public final class LookEdgesTest {
     }
 
     private static void blockHeldUpAtTheLast() {
-        Check.sentence("Promise 10", "4 how often a train has moved to its brake so far while the next block was not free");
+        Check.sentence("Promise 10",
+                "4 how often a train has moved to its brake so far while the next block was not free");
         BlockCoaster x = Rides.on("9b0b0b0b0.");
         Rides.set(x, 3, 1, 0, 20);
         x.addTrain(3);
@@ -328,7 +331,8 @@ public final class LookEdgesTest {
     }
 
     private static void blockHeldUpOnlyByMoving() {
-        Check.sentence("Promise 10", "4 how often a train has moved to its brake so far while the next block was not free");
+        Check.sentence("Promise 10",
+                "4 how often a train has moved to its brake so far while the next block was not free");
         BlockCoaster x = Rides.on("0b9.0b0b0b");
         x.set(1, 1);
         x.addTrain(0);
@@ -344,7 +348,8 @@ public final class LookEdgesTest {
     }
 
     private static void blockNotHeldUp() {
-        Check.sentence("Promise 10", "4 how often a train has moved to its brake so far while the next block was not free");
+        Check.sentence("Promise 10",
+                "4 how often a train has moved to its brake so far while the next block was not free");
         BlockCoaster x = Rides.on("0b0b0.0.");
         x.set(1, 1);
         x.addTrain(0);
@@ -561,7 +566,8 @@ public final class LookEdgesTest {
     }
 
     private static void whyDwell() {
-        Check.sentence("Promise 13", "3 it stands at the station and has not stood for the dwell (the next tick counted)");
+        Check.sentence("Promise 13",
+                "3 it stands at the station and has not stood for the dwell (the next tick counted)");
         for (int dwell : new int[] {1, 2, 50}) {
             BlockCoaster x = Rides.on("0b0b0b0b");
             x.set(1, dwell);

@@ -141,7 +141,8 @@ public final class QuestionEdgesTest {
     }
 
     private static void valleyThatDoesNotNow() {
-        Check.sentence("Promise 15", "Tells how many ticks would pass until some train lies in a valley that does not now.");
+        Check.sentence("Promise 15",
+                "Tells how many ticks would pass until some train lies in a valley that does not now.");
         BlockCoaster x = Rides.on("0b9.0b0b0b9.");
         x.set(1, 1);
         x.addTrain(0);
@@ -161,7 +162,8 @@ public final class QuestionEdgesTest {
     }
 
     private static void valleyOfEachKind() {
-        Check.sentence("Promise 15", "Tells how many ticks would pass until some train lies in a valley that does not now.");
+        Check.sentence("Promise 15",
+                "Tells how many ticks would pass until some train lies in a valley that does not now.");
         BlockCoaster x = Rides.on("0b0.0.0b");
         Rides.set(x, 19, 1, 0, 0);
         x.addTrain(0);
@@ -198,7 +200,8 @@ public final class QuestionEdgesTest {
     }
 
     private static void gapIsAnotherOne() {
-        Check.sentence("Promise 16", "Tells how many dispatches there would be in the next 1000 ticks with another gap.");
+        Check.sentence("Promise 16",
+                "Tells how many dispatches there would be in the next 1000 ticks with another gap.");
         BlockCoaster x = Rides.on("0b0b0b0b");
         x.set(1, 1);
         Check.due("without a train", 0, x.dispatchesWith(0));
@@ -213,7 +216,8 @@ public final class QuestionEdgesTest {
     }
 
     private static void dispatchesIn1000Ticks() {
-        Check.sentence("Promise 16", "Tells how many dispatches there would be in the next 1000 ticks with another gap.");
+        Check.sentence("Promise 16",
+                "Tells how many dispatches there would be in the next 1000 ticks with another gap.");
         BlockCoaster x = Rides.on("0b0b0b0b");
         x.set(1, 1);
         x.addTrain(0);
@@ -232,7 +236,8 @@ public final class QuestionEdgesTest {
     }
 
     private static void dispatchesGapOfTheLatest() {
-        Check.sentence("Promise 16", "Tells how many dispatches there would be in the next 1000 ticks with another gap.");
+        Check.sentence("Promise 16",
+                "Tells how many dispatches there would be in the next 1000 ticks with another gap.");
         BlockCoaster x = Rides.on("0b0b0b0b");
         x.set(1, 1);
         x.addTrain(0);

@@ -99,4 +99,56 @@ final class Rides {
         }
         return all.toString();
     }
+
+    /** All that can be looked at, but for the text and the saved states. */
+    static String all(BlockCoaster coaster) {
+        StringBuilder all = new StringBuilder(values(coaster));
+        for (int cell = 0; cell < coaster.value(0); cell++) {
+            all.append('/').append(cell(coaster, cell));
+        }
+        for (int block = 0; block < coaster.value(1); block++) {
+            all.append('/').append(block(coaster, block));
+        }
+        for (int train = 0; train < coaster.value(2); train++) {
+            all.append('/').append(train(coaster, train));
+        }
+        for (int index = 0; index < keptDispatches(coaster); index++) {
+            all.append('/').append(coaster.dispatch(index, 0)).append(' ').append(coaster.dispatch(index, 1));
+        }
+        return all.toString();
+    }
+
+    private static int keptDispatches(BlockCoaster coaster) {
+        return Math.min(30, coaster.value(8));
+    }
+
+    /** The digest that is due, from the answers of the other calls. */
+    static long digest(BlockCoaster coaster, int textLength, int saved) {
+        long h = 31L * 3581 + textLength;
+        for (int what = 0; what < 12; what++) {
+            h = 31 * h + coaster.value(what);
+        }
+        for (int cell = 0; cell < coaster.value(0); cell++) {
+            for (int what = 0; what < 4; what++) {
+                h = 31 * h + coaster.cell(cell, what);
+            }
+        }
+        for (int block = 0; block < coaster.value(1); block++) {
+            for (int what = 0; what < 5; what++) {
+                h = 31 * h + coaster.block(block, what);
+            }
+        }
+        for (int train = 0; train < coaster.value(2); train++) {
+            for (int what = 0; what < 10; what++) {
+                h = 31 * h + coaster.train(train, what);
+            }
+            h = 31 * h + coaster.why(train);
+        }
+        for (int index = 0; index < keptDispatches(coaster); index++) {
+            h = 31 * h + coaster.dispatch(index, 0);
+            h = 31 * h + coaster.dispatch(index, 1);
+        }
+        h = 31 * h + coaster.ticksToValley();
+        return 31 * h + saved;
+    }
 }

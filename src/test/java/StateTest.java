@@ -54,7 +54,7 @@ public final class StateTest {
         x.addTrain(3);
         x.addTrain(2);
         Rides.pass(x, 3000);
-        String before = all(x);
+        String before = Rides.all(x);
         x.pass(77);
         Rides.write(x, "9.9b9l9.9b");
         x.parse();
@@ -71,7 +71,7 @@ public final class StateTest {
         x.undo();
         x.undo();
         x.undo();
-        Check.due("23: all is back", before, all(x));
+        Check.due("23: all is back", before, Rides.all(x));
         undoBringsTrainsBack();
     }
 
@@ -79,33 +79,16 @@ public final class StateTest {
         BlockCoaster x = Rides.on("9b0.0b0.");
         x.addTrain(0);
         x.pass(3);
-        String standing = all(x);
+        String standing = Rides.all(x);
         x.pass(2);
         x.undo();
-        Check.due("23: ticks of standing", standing, all(x));
+        Check.due("23: ticks of standing", standing, Rides.all(x));
         x.pass(25);
-        String warm = all(x);
+        String warm = Rides.all(x);
         Check.due("23: warm", true, x.train(0, 4) > 20);
         x.pass(20);
         x.undo();
-        Check.due("23: warmth", warm, all(x));
-    }
-
-    private static String all(BlockCoaster x) {
-        StringBuilder all = new StringBuilder(Rides.values(x));
-        for (int cell = 0; cell < x.value(0); cell++) {
-            all.append('/').append(Rides.cell(x, cell));
-        }
-        for (int block = 0; block < x.value(1); block++) {
-            all.append('/').append(Rides.block(x, block));
-        }
-        for (int train = 0; train < x.value(2); train++) {
-            all.append('/').append(Rides.train(x, train));
-        }
-        for (int index = 0; index < Math.min(30, x.value(8)); index++) {
-            all.append('/').append(x.dispatch(index, 0)).append(' ').append(x.dispatch(index, 1));
-        }
-        return all.toString();
+        Check.due("23: warmth", warm, Rides.all(x));
     }
 
     private static void undoLeavesTheText() {
@@ -143,50 +126,21 @@ public final class StateTest {
 
     private static void digest() {
         BlockCoaster x = new BlockCoaster();
-        Check.due("24: new", expected(x, 0, 0), x.digest());
+        Check.due("24: new", Rides.digest(x, 0, 0), x.digest());
         x.addTrain(0);
         x.addTrain(2);
         x.append('0');
-        Check.due("24: trains, a text, saved states", expected(x, 1, 2), x.digest());
+        Check.due("24: trains, a text, saved states", Rides.digest(x, 1, 2), x.digest());
         x.pass(300);
         x.setHeight(7, 9);
         x.pass(3);
-        Check.due("24: more saved states", expected(x, 1, 4), x.digest());
+        Check.due("24: more saved states", Rides.digest(x, 1, 4), x.digest());
         BlockCoaster y = Rides.on("0b0b0b0b");
         y.set(1, 1);
         y.addTrain(0);
         Rides.pass(y, 4000);
-        Check.due("24: 30 dispatches", expected(y, 8, 4), y.digest());
+        Check.due("24: 30 dispatches", Rides.digest(y, 8, 4), y.digest());
         Check.due("24: it changes nothing", y.digest(), y.digest());
-    }
-
-    private static long expected(BlockCoaster x, int textLength, int saved) {
-        long h = 31L * 3581 + textLength;
-        for (int what = 0; what <= 11; what++) {
-            h = 31 * h + x.value(what);
-        }
-        for (int cell = 0; cell < x.value(0); cell++) {
-            for (int what = 0; what <= 3; what++) {
-                h = 31 * h + x.cell(cell, what);
-            }
-        }
-        for (int block = 0; block < x.value(1); block++) {
-            for (int what = 0; what <= 4; what++) {
-                h = 31 * h + x.block(block, what);
-            }
-        }
-        for (int train = 0; train < x.value(2); train++) {
-            for (int what = 0; what <= 9; what++) {
-                h = 31 * h + x.train(train, what);
-            }
-            h = 31 * h + x.why(train);
-        }
-        for (int index = 0; index < Math.min(30, x.value(8)); index++) {
-            h = 31 * h + x.dispatch(index, 0);
-            h = 31 * h + x.dispatch(index, 1);
-        }
-        h = 31 * h + x.ticksToValley();
-        return 31 * h + saved;
     }
 
     private static void throwingChangesNothing() {

@@ -231,7 +231,8 @@ public final class TextEdgesTest {
     }
 
     private static void errorAfterErrors() {
-        Check.sentence("Promise 22", "-10 minus the syntax error position if there is a syntax error (then nothing changes).");
+        Check.sentence("Promise 22",
+                "-10 minus the syntax error position if there is a syntax error (then nothing changes).");
         BlockCoaster x = new BlockCoaster();
         Rides.write(x, "0b0b0.");
         Check.due("the first time", -16, x.parse());

@@ -327,7 +327,8 @@ public final class TickEdgesTest {
     }
 
     private static void progressOfAHundred() {
-        Check.sentence("Promise 7, Terms", "While the progress is 100 or more, and the train runs: the progress falls by 100");
+        Check.sentence("Promise 7, Terms",
+                "While the progress is 100 or more, and the train runs: the progress falls by 100");
         BlockCoaster x = releasedWith("0b0.0.0b", 14);
         x.pass(19);
         Check.due("95", "0 25 95 0", where(x, 0));
@@ -339,7 +340,8 @@ public final class TickEdgesTest {
     }
 
     private static void progressAboveAHundred() {
-        Check.sentence("Promise 7, Terms", "While the progress is 100 or more, and the train runs: the progress falls by 100");
+        Check.sentence("Promise 7, Terms",
+                "While the progress is 100 or more, and the train runs: the progress falls by 100");
         BlockCoaster x = releasedWith("0b0.0.0.0b", 10);
         x.pass(20 + 34);
         Check.due("102 is 2 on the next cell", "2 5 2 0", where(x, 0));
@@ -411,7 +413,8 @@ public final class TickEdgesTest {
     }
 
     private static void belowZeroOnTheBrakeCell() {
-        Check.sentence("Promise 7, Terms", "(also on a brake cell on which it was released): its square and its progress are 0.");
+        Check.sentence("Promise 7, Terms",
+                "(also on a brake cell on which it was released): its square and its progress are 0.");
         BlockCoaster x = releasedWith("0b0.0.0b", 26);
         x.pass(19);
         Check.due("the tick before", "0 25 95 0", where(x, 0));
@@ -452,7 +455,8 @@ public final class TickEdgesTest {
     }
 
     private static void comesToABrake() {
-        Check.sentence("Promise 7, Terms", "it stands at the brake: its square and progress are 0, and its ticks of standing are 0.");
+        Check.sentence("Promise 7, Terms",
+                "it stands at the brake: its square and progress are 0, and its ticks of standing are 0.");
         BlockCoaster x = releasedWith("0b0.0b0b", 10);
         x.pass(20 + 33);
         Check.due("ahead of it", "1 15 99 0", where(x, 0));
@@ -551,7 +555,8 @@ public final class TickEdgesTest {
     }
 
     private static void wheelsNearerToTheAir() {
-        Check.sentence("Promise 7, Terms", "then each train's warmth comes nearer to the air by 1, if it is not the same.");
+        Check.sentence("Promise 7, Terms",
+                "then each train's warmth comes nearer to the air by 1, if it is not the same.");
         BlockCoaster x = Rides.on("0b0b0.0.");
         x.addTrain(1);
         x.addTrain(0);
@@ -580,7 +585,8 @@ public final class TickEdgesTest {
     }
 
     private static void wheelsOfTheOthers() {
-        Check.sentence("Promise 7, Terms", "then each train's warmth comes nearer to the air by 1, if it is not the same.");
+        Check.sentence("Promise 7, Terms",
+                "then each train's warmth comes nearer to the air by 1, if it is not the same.");
         BlockCoaster x = Rides.on("0b9.0b0.0b0.0b0.");
         x.set(1, 1);
         x.addTrain(0);

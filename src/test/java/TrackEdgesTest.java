@@ -250,7 +250,8 @@ public final class TrackEdgesTest {
     }
 
     private static void firstTrack() {
-        Check.sentence("Promise 1, Terms", "The first track is \"0b1l3l5l7l7b4.1.3.2.4b2.1.0b\", as told for texts below.");
+        Check.sentence("Promise 1, Terms",
+                "The first track is \"0b1l3l5l7l7b4.1.3.2.4b2.1.0b\", as told for texts below.");
         int[] heights = {0, 1, 3, 5, 7, 7, 4, 1, 3, 2, 4, 2, 1, 0};
         int[] kinds = {2, 1, 1, 1, 1, 2, 0, 0, 0, 0, 2, 0, 0, 2};
         int[] blocks = {0, 1, 1, 1, 1, 1, 2, 2, 2, 2, 2, 3, 3, 3};

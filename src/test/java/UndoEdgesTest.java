@@ -210,12 +210,12 @@ public final class UndoEdgesTest {
         Check.refused(x, "none remains", STATE, x::undo);
     }
 
-    /** A coaster with all that can be saved: a dispatch, trains of each kind, a held-up train, other heights and numbers. */
+    /** Much that can be saved: a dispatch, one train that lies, two that stand, one that runs, heights and numbers. */
     private static BlockCoaster full() {
         BlockCoaster x = Rides.on("0b0b0b9.0b0.0b0b0b");
         Rides.set(x, 2, 3, 7, 30);
-        x.addTrain(2);
-        x.pass(30);
+        x.addTrain(0);
+        x.pass(70);
         x.addTrain(1);
         x.addTrain(0);
         x.setHeight(8, 1);
@@ -225,49 +225,38 @@ public final class UndoEdgesTest {
         return x;
     }
 
-    private static String all(BlockCoaster x) {
-        StringBuilder all = new StringBuilder(Rides.values(x));
-        for (int cell = 0; cell < x.value(0); cell++) {
-            all.append('/').append(Rides.cell(x, cell));
-        }
-        for (int block = 0; block < x.value(1); block++) {
-            all.append('/').append(Rides.block(x, block));
-        }
-        for (int train = 0; train < x.value(2); train++) {
-            all.append('/').append(Rides.train(x, train));
-        }
-        return all.toString();
-    }
-
     private static void everythingIsRestored() {
         Check.sentence("Promise 23, Terms", "The saved state contains everything except the text.");
         BlockCoaster x = full();
-        String before = all(x);
+        String before = Rides.all(x);
+        Check.due("a dispatch", 1, x.value(8));
+        Check.due("trains of each kind", "2 1 1 0", x.train(0, 5) + " " + x.train(1, 5) + " " + x.train(2, 5) + " "
+                + x.train(3, 5));
         x.pass(333);
         x.undo();
-        Check.due("pass", before, all(x));
+        Check.due("pass", before, Rides.all(x));
         x = full();
         x.rescue(0);
         x.undo();
-        Check.due("rescue", before, all(x));
+        Check.due("rescue", before, Rides.all(x));
         x = full();
         x.takeTrain();
         x.pass(40);
         x.undo();
         x.undo();
-        Check.due("takeTrain", before, all(x));
+        Check.due("takeTrain", before, Rides.all(x));
         x = full();
         x.takeTrain();
         x.addTrain(4);
         x.undo();
         x.undo();
-        Check.due("addTrain", before, all(x));
+        Check.due("addTrain", before, Rides.all(x));
         x = full();
         Rides.set(x, 20, 50, 500, 0);
         for (int i = 0; i < 4; i++) {
             x.undo();
         }
-        Check.due("set", before, all(x));
+        Check.due("set", before, Rides.all(x));
     }
 
     private static void heldUpIsRestored() {
@@ -332,13 +321,13 @@ public final class UndoEdgesTest {
         BlockCoaster x = Rides.on("0b0b" + "1.".repeat(27) + "9b");
         Rides.write(x, "9b9l9b9l");
         x.parse();
-        String four = all(x);
+        String four = Rides.all(x);
         Rides.write(x, "2b".repeat(8));
         x.parse();
         x.setHeight(7, 3);
         x.undo();
         x.undo();
-        Check.due("four cells", four, all(x));
+        Check.due("four cells", four, Rides.all(x));
         x.undo();
         Check.due("thirty cells", "30 3", x.value(0) + " " + x.value(1));
         Check.due("the first block", "0 0 1 -1 0", Rides.block(x, 0));
@@ -365,47 +354,16 @@ public final class UndoEdgesTest {
         Check.sentence("Promise 23, Terms", "A call that throws an exception changes nothing.");
         BlockCoaster x = full();
         Rides.write(x, "0".repeat(90));
-        String before = all(x);
+        String before = Rides.all(x);
         Check.Call[] calls = {() -> x.addTrain(7), () -> x.addTrain(3), () -> x.rescue(1), () -> x.rescue(4),
             () -> x.set(0, 21), () -> x.set(4, 0), () -> x.setHeight(9, 0), () -> x.setHeight(0, 10), () -> x.pass(0),
             () -> x.pass(501), () -> x.append(48), () -> x.append(128), () -> x.dispatchesWith(501)};
         for (Check.Call call : calls) {
             Check.due("it throws", true, Check.outcome(call).toString().endsWith("Exception"));
         }
-        Check.due("all", before, all(x));
+        Check.due("all", before, Rides.all(x));
         Check.due("the text", 90, x.clearText());
         Check.due("saved states", 3, x.undo());
-    }
-
-    private static long with(long h, long v) {
-        return 31 * h + v;
-    }
-
-    private static long expected(BlockCoaster x, int length, int dispatches, int saved) {
-        long h = with(3581, length);
-        for (int what = 0; what < 12; what++) {
-            h = with(h, x.value(what));
-        }
-        for (int cell = 0; cell < x.value(0); cell++) {
-            for (int what = 0; what < 4; what++) {
-                h = with(h, x.cell(cell, what));
-            }
-        }
-        for (int block = 0; block < x.value(1); block++) {
-            for (int what = 0; what < 5; what++) {
-                h = with(h, x.block(block, what));
-            }
-        }
-        for (int train = 0; train < x.value(2); train++) {
-            for (int what = 0; what < 10; what++) {
-                h = with(h, x.train(train, what));
-            }
-            h = with(h, x.why(train));
-        }
-        for (int index = 0; index < dispatches; index++) {
-            h = with(with(h, x.dispatch(index, 0)), x.dispatch(index, 1));
-        }
-        return with(with(h, x.ticksToValley()), saved);
     }
 
     private static void digestOverflows() {
@@ -416,25 +374,26 @@ public final class UndoEdgesTest {
     private static void digestOfTheText() {
         Check.sentence("Promise 24", "the length of the text");
         BlockCoaster x = new BlockCoaster();
-        Check.due("an empty text", expected(x, 0, 0, 0), x.digest());
+        Check.due("an empty text", Rides.digest(x, 0, 0), x.digest());
         Rides.write(x, "0".repeat(90));
-        Check.due("a full text", expected(x, 90, 0, 0), x.digest());
+        Check.due("a full text", Rides.digest(x, 90, 0), x.digest());
     }
 
     private static void digestOfAllValues() {
         Check.sentence("Promise 24", "for each train the values of train() for what = 0 to 9 and why()");
         BlockCoaster x = full();
         Check.due("four trains", 4, x.value(2));
-        Check.due("the digest", expected(x, 18, x.value(8), 4), x.digest());
-        Check.due("again", expected(x, 18, x.value(8), 4), x.digest());
+        Check.due("the digest", Rides.digest(x, 18, 4), x.digest());
+        Check.due("again", Rides.digest(x, 18, 4), x.digest());
         BlockCoaster y = Rides.on("0b".repeat(8) + "9.".repeat(22));
-        Check.due("the longest track", expected(y, 60, 0, 1), y.digest());
+        Check.due("the longest track", Rides.digest(y, 60, 1), y.digest());
         BlockCoaster z = Rides.on("0b0b9.0.");
-        Check.due("the shortest track", expected(z, 8, 0, 1), z.digest());
+        Check.due("the shortest track", Rides.digest(z, 8, 1), z.digest());
     }
 
     private static void digestOfTheLog() {
-        Check.sentence("Promise 24", "for each dispatch that is kept, from the latest one, the values of dispatch() for 0 and 1");
+        Check.sentence("Promise 24",
+                "for each dispatch that is kept, from the latest one, the values of dispatch() for 0 and 1");
         for (int dispatches : new int[] {0, 1, 29, 30, 31}) {
             BlockCoaster x = Rides.on("0b0b0b0b");
             x.set(1, 1);
@@ -442,16 +401,16 @@ public final class UndoEdgesTest {
             int ticks = Math.max(84 * (dispatches - 1) + 1, 0);
             Rides.pass(x, ticks);
             int saved = Math.min(4, 3 + (ticks + 499) / 500);
-            Check.due(dispatches + " dispatches", expected(x, 8, Math.min(30, dispatches), saved), x.digest());
+            Check.due(dispatches + " dispatches", Rides.digest(x, 8, saved), x.digest());
         }
     }
 
     private static void digestOfTheValley() {
         Check.sentence("Promise 24", "ticksToValley()");
         BlockCoaster x = Rides.releasedIn(Rides.slowTrack(9), 300);
-        Check.due("2000 ticks", expected(x, 60, 1, 4), x.digest());
+        Check.due("2000 ticks", Rides.digest(x, 60, 4), x.digest());
         x.set(2, 301);
-        Check.due("none", expected(x, 60, 1, 4), x.digest());
+        Check.due("none", Rides.digest(x, 60, 4), x.digest());
     }
 
     private static void digestOfTheSavedStates() {
@@ -461,7 +420,7 @@ public final class UndoEdgesTest {
             for (int call = 0; call < calls; call++) {
                 x.set(0, 3);
             }
-            Check.due(calls + " calls", expected(x, 0, 0, Math.min(4, calls)), x.digest());
+            Check.due(calls + " calls", Rides.digest(x, 0, Math.min(4, calls)), x.digest());
         }
         BlockCoaster x = new BlockCoaster();
         x.set(0, 3);
